@@ -102,7 +102,7 @@ public final class ViewedBank {
         }
         Row row = bank.rowAt(slot);
         if (row == null) {
-            return whyNoRow(slot);
+            return bank.whyNoRow(slot);
         }
         switch (what) {
             case 1: return row.size();
@@ -350,7 +350,7 @@ public final class ViewedBank {
         }
         Row row = bank.rowAt(slot);
         if (row == null) {
-            return whyNoRow(slot);
+            return bank.whyNoRow(slot);
         }
         int seen = 1 << AS_IT_IS;
         for (int view = BITS; view <= DOUBLES; view++) {
@@ -367,7 +367,7 @@ public final class ViewedBank {
         }
         Row row = bank.rowAt(slot);
         if (row == null) {
-            return whyNoRow(slot);
+            return bank.whyNoRow(slot);
         }
         return row.admits(kind) ? 1 : 0;
     }
@@ -378,7 +378,7 @@ public final class ViewedBank {
         }
         Row row = bank.rowAt(slot);
         if (row == null) {
-            return whyNoRow(slot);
+            return bank.whyNoRow(slot);
         }
         if (!Kinds.mayBeViewed(row.kind, view)) {
             return KIND;
@@ -429,7 +429,7 @@ public final class ViewedBank {
         }
         Row row = bank.rowAt(slot);
         if (row == null) {
-            return whyNoRow(slot);
+            return bank.whyNoRow(slot);
         }
         sheet.become(row);
         return sheet.length;
@@ -524,14 +524,10 @@ public final class ViewedBank {
 
     // ---- single cells
 
-    private int whyNoRow(int slot) {
-        return bank.heldBy(slot) == EMPTY ? NOTHING : KIND;
-    }
-
     private int readCell(int slot, int i, int view, Box into) {
         Row row = bank.rowAt(slot);
         if (row == null) {
-            return whyNoRow(slot);
+            return bank.whyNoRow(slot);
         }
         if (view != AS_IT_IS && row.kind >= BOXES) {
             return KIND;
@@ -554,7 +550,7 @@ public final class ViewedBank {
     private int putCell(int slot, int i, int view, Box what) {
         Row row = bank.rowAt(slot);
         if (row == null) {
-            return whyNoRow(slot);
+            return bank.whyNoRow(slot);
         }
         if (view != AS_IT_IS && row.kind >= BOXES) {
             return KIND;
@@ -1085,6 +1081,11 @@ public final class ViewedBank {
             return isPlace(slot) ? held[slot] : EMPTY;
         }
 
+        /** The refusal of a slot that holds no row. */
+        int whyNoRow(int slot) {
+            return isPlace(slot) && held[slot] != EMPTY ? KIND : NOTHING;
+        }
+
         int numberAt(int slot) {
             return isPlace(slot) ? numbers[slot] : 0;
         }
@@ -1352,13 +1353,13 @@ public final class ViewedBank {
         }
 
         private void keep(Act act) {
-            cutTo(doneCount);
             if (doneCount >= acts.length) {
                 dropOldest();
             }
             if (doneCount >= 0 && doneCount < acts.length) {
                 acts[doneCount] = act;
                 doneCount++;
+                // What was undone stood behind, and cannot be done again any more.
                 allCount = doneCount;
             }
         }
@@ -1368,21 +1369,11 @@ public final class ViewedBank {
                 acts[k - 1] = acts[k];
             }
             doneCount--;
-            cutTo(doneCount);
-        }
-
-        private void cutTo(int count) {
-            for (int k = 0; k < acts.length; k++) {
-                if (k >= count) {
-                    acts[k] = null;
-                }
-            }
-            allCount = count;
         }
 
         void clear() {
             doneCount = 0;
-            cutTo(0);
+            allCount = 0;
         }
 
         /** Acts that have a cell of a row are no more. */
@@ -1398,7 +1389,7 @@ public final class ViewedBank {
                 }
             }
             doneCount = leftDone;
-            cutTo(left);
+            allCount = left;
         }
 
         /** The i-th act that is not undone. */
@@ -1466,7 +1457,7 @@ public final class ViewedBank {
         boolean isText() {
             at = 0;
             lineCount = 0;
-            for (int k = 0; k <= lines.length; k++) {
+            for (int k = 0; k < lines.length; k++) {
                 Line line = new Line();
                 if (!isLine(line)) {
                     return false;
