@@ -171,11 +171,7 @@ public final class ViewedBank {
                 || many < 0 || many > MOST_CELLS || !isView(view)) {
             return BAD;
         }
-        seen.slot = slot;
-        seen.from = from;
-        seen.step = step;
-        seen.many = many;
-        seen.view = view;
+        seen.become(slot, from, step, many, view);
         return DONE;
     }
 
@@ -1042,14 +1038,12 @@ public final class ViewedBank {
             return from + j * step;
         }
 
-        Window copied() {
-            Window twin = new Window();
-            twin.slot = slot;
-            twin.from = from;
-            twin.step = step;
-            twin.many = many;
-            twin.view = view;
-            return twin;
+        void become(int newSlot, int newFrom, int newStep, int newMany, int newView) {
+            slot = newSlot;
+            from = newFrom;
+            step = newStep;
+            many = newMany;
+            view = newView;
         }
     }
 
@@ -1210,9 +1204,10 @@ public final class ViewedBank {
                 }
             }
             for (int w = 0; w < windows.length; w++) {
-                Window window = windows[w];
-                if (window != null) {
-                    twin.windows[w] = window.copied();
+                Window seen = windows[w];
+                Window copy = twin.windowAt(w);
+                if (seen != null && copy != null) {
+                    copy.become(seen.slot, seen.from, seen.step, seen.many, seen.view);
                 }
             }
             return twin;

@@ -342,7 +342,8 @@ public final class PromisesTest {
   private static void promise9() {
     ViewedBank x = rowsOfAllKinds(3);
     int[][] pairs = {{1, 3}, {-7, 2}, {0, 5}, {0, -5}, {Integer.MAX_VALUE, 1}, {Integer.MIN_VALUE, -1}, {1, Integer.MIN_VALUE},
-        {Integer.MAX_VALUE, Integer.MIN_VALUE}, {16777217, 1}, {16777219, 33554433}, {-1, Integer.MAX_VALUE}, {2, 3}, {10, 3}};
+        {Integer.MAX_VALUE, Integer.MIN_VALUE}, {16777217, 1}, {16777219, 33554433}, {-1, Integer.MAX_VALUE}, {2, 3}, {10, 3}, {1, 1000},
+        {1, Integer.MAX_VALUE}, {-3, 100}};
     for (int[] p : pairs) {
       due("real(6, 1, 6, ..)", x.real(6, 1, 6, p[0], p[1]), 1);
       dueRead(x, 6, 1, 6, 6, Float.floatToIntBits((float) p[0] / (float) p[1]));
@@ -1143,8 +1144,9 @@ public final class PromisesTest {
     ViewedBank x = rowsOfAllKinds(2);
     String[] faulty = {"", "a", "0", "0.", "0.1", "0.12", "0.123<41", "0.1>", "0.1=", "0.1=1", "0.1=1.", "0.1=1.2", "0.1=1.23",
         "0.1=1.234:", "0.1=1.2:", "0.1=1.2:9", "0.1=1.2:88", "0.1<", "0.1<4", "0.1<4-", "0.1<4--1", "0.1<4+1", "0.1<48;", "0.1<8;;",
-        "0.1<80", "0.1<8-", "0.1<41234567890", "0.1<4-1234567890", "0.1<41 ", " 0.1<41", "0..1", "0.-1<41", "0.1<41;0.1<41;x", "00.1<41"};
-    int[] faults = {0, 0, 1, 2, 3, 4, 4, 3, 4, 5, 6, 7, 8, 8, 8, 8, 9, 4, 5, 6, 6, 5, 7, 6, 5, 5, 14, 15, 6, 0, 2, 2, 14, 1};
+        "0.1<80", "0.1<8-", "0.1<41234567890", "0.1<4-1234567890", "0.1<41 ", " 0.1<41", "0..1", "0.-1<41", "0.1<41;0.1<41;x", "00.1<41",
+        ".1<41", "0.<41", "0.1=.2:4", "0.1=1.:4", "0.1<-1", "0.1<41;.1<41"};
+    int[] faults = {0, 0, 1, 2, 3, 4, 4, 3, 4, 5, 6, 7, 8, 8, 8, 8, 9, 4, 5, 6, 6, 5, 7, 6, 5, 5, 14, 15, 6, 0, 2, 2, 14, 1, 0, 2, 4, 6, 4, 7};
     for (int k = 0; k < faulty.length; k++) {
       due("run() of '" + faulty[k] + "'", runText(x, faulty[k]), -1000 - faults[k]);
       due("count(6)", x.count(6), 0);
