@@ -1250,6 +1250,10 @@ public final class PromisesTest {
       due("of(0, 3)", x.of(0, 3), 1);
       x.window(4, 0, 0, 0, 0, 0);
     }
+    x.back();
+    x.make(2, 4, 1);
+    due("no ACT comes again, count(4)", x.count(4), 0);
+    due("no ACT comes again, count(5)", x.count(5), 0);
     due("refusals stay counted", x.count(11), 1);
     due("THE TAPE stays", x.count(6), 1);
     due("THE PAPER stays", x.paper(0), 'o');
